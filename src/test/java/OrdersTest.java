@@ -185,6 +185,22 @@ public final class OrdersTest {
         x.buy(0, 0, 22, 22);
         x.order(0, 20, 20, 0);
         due("the least least side", x.cut(0, 0), 2);
+        // Width and height of the sheet, of the pane, and the area of the one piece that would be kept.
+        int[][] edges = {
+            {31, 20, 20, 20, 200}, {30, 20, 20, 20, 0}, {51, 10, 20, 10, 300}, {51, 9, 20, 9, 0},
+            {20, 31, 20, 20, 200}, {20, 30, 20, 20, 0}, {10, 51, 10, 20, 300}, {9, 51, 9, 20, 0},
+        };
+        for (int[] edge : edges) {
+            for (int manner = 0; manner < 2; manner++) {
+                x = new GlassRacks();
+                x.set(2, manner);
+                x.buy(0, 0, edge[0], edge[1]);
+                x.order(0, edge[2], edge[3], 0);
+                due("would keep of " + edge[0] + "x" + edge[1], x.would(0, 0, 3), edge[4]);
+                due("the pieces kept", x.cut(0, 0), edge[4] > 0 ? 1 : 0);
+                due("their area", x.count(2), edge[4]);
+            }
+        }
         x = new GlassRacks();
         x.set(1, 99);
         x.set(0, 0);

@@ -13,6 +13,7 @@ public final class PlansTest {
     public static void main(String[] args) {
         promise9Plan();
         promise9ThingsAsTheyAreThen();
+        promise9TwelveOrders();
         promise9Breaks();
         promise21Choice();
         promise21Equals();
@@ -80,6 +81,19 @@ public final class PlansTest {
         due("one act", x.count(13), 4);
         x.undo();
         due("undone", x.count(10), 4);
+    }
+
+    private static void promise9TwelveOrders() {
+        GlassRacks x = new GlassRacks();
+        x.set(0, 0);
+        for (int i = 0; i < 12; i++) {
+            x.buy(i % 4, 0, 12 - i, 1);
+            x.order(0, 12 - i, 1, i);
+        }
+        due("twelve orders would be cut", x.wouldPlan(0, 0), 12);
+        due("twelve orders are cut", x.plan(0), 12);
+        due("no sheet is left", x.count(1), 0);
+        due("the last one from the last sheet", x.ordered(11, 5), 11);
     }
 
     private static void promise9Breaks() {
@@ -239,5 +253,16 @@ public final class PlansTest {
             x.restore();
         }
         due("two would be cut", x.wouldPlan(0, 0), 2);
+
+        x = new GlassRacks();
+        x.set(3, 1);
+        x.buy(0, 0, 20, 20);
+        x.buy(1, 0, 20, 30);
+        x.scrap(0);
+        x.order(0, 20, 20, 0);
+        due("what broke before does not count", x.wouldPlan(0, 3), 600);
+        due("it stays", x.count(6), 400);
+        x.set(3, 0);
+        due("nothing would break", x.wouldPlan(0, 3), 0);
     }
 }

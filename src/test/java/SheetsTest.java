@@ -287,6 +287,13 @@ public final class SheetsTest {
         due("at 3 -1", x.at(3, -1), BAD_VALUE);
         due("at 3 lowest", x.at(3, LOW), BAD_VALUE);
         due("at 2 0", x.at(2, 0), NONE);
+        x.buy(2, 0, 1, 1);
+        for (int i = 0; i < 8; i++) {
+            x.buy(1, 0, 1, 1);
+        }
+        due("at 2 0 with a sheet", x.at(2, 0), 8);
+        due("at 2 1, not the front of the full rack 1", x.at(2, 1), NONE);
+        due("at 2 7, not the rear of the full rack 3", x.at(2, 7), NONE);
         for (int wrong : new int[] {-1, 4, LOW, HIGH}) {
             due("at rack " + wrong, x.at(wrong, -1), UNKNOWN);
         }

@@ -50,7 +50,8 @@ public final class TextsTest {
         due("the text stays", x.count(14), 16);
         due("again", x.perform(), 3);
         due("another sheet", x.count(12), 4);
-        due("day 0", performed(x, "o0,1x1@0"), 1);
+        due("day 0", performed(x, "o2,1x1@0"), 1);
+        due("the last sort", x.ordered(1, 0), 2);
         due("it is late", x.ordered(1, 7), 1);
         due("the last day", performed(x, "o0,1x1@999"), 1);
         for (int choice = 0; choice < 3; choice++) {
@@ -68,6 +69,8 @@ public final class TextsTest {
             "s0:0", "s0:00,1x1", "s0:0,", "s0:0,0x1", "s0:0,01x1", "s0:0,100x1", "s0:0,1", "s0:0,12", "s0:0,1x",
             "s0:0,1x0", "s0:0,1x100", "s0:0,1X1", "s0,0,1x1", "s0:0:1x1", "s0:0,1x1@5", "o3,1x1@0", "o0:1x1@0",
             "o0,1x1", "o0,1x1@", "o0,1x1@00", "o0,1x1@1000", "o0,1x1@01", "o0,1x1;", "o0,1x1@x", "p0;o0,1x1@5;q",
+            "d109", "s19:0,1x1", "s0:19,1x1", "s0:0,109x1", "s0:0,1x109", "o19,1x1@0", "o0,109x1@0", "o0,1x109@0",
+            "o0,1x1@1009", "p19", "o0,0x1@0", "o0,1x0@0", "o0,01x1@0", "d99;d109", "q0;p0", "p0;d1;s0:0,5x5;",
             "p\u0661", "p\u00b2", "p\uffff", "\u0000", "d1\u0000", "d\uff11",
         };
         int[] faults = {
@@ -76,6 +79,8 @@ public final class TextsTest {
             4, 4, 5, 5, 5, 7, 6, 7, 7,
             7, 9, 6, 2, 4, 8, 1, 2,
             6, 7, 8, 10, 8, 6, 7, 12,
+            3, 2, 4, 7, 9, 2, 5, 7,
+            10, 2, 3, 5, 3, 7, 0, 15,
             1, 1, 1, 0, 2, 1,
         };
         due("as many", texts.length, faults.length);
