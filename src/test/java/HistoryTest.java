@@ -46,14 +46,14 @@ public final class HistoryTest {
     }
 
     private static void promise14EveryAct() {
-        GlassRacks x = new GlassRacks();
-        x.buy(0, 0, 50, 50);
-        x.buy(0, 0, 60, 60);
-        x.order(0, 20, 20, 3);
-        x.order(0, 30, 30, 4);
-        x.keep();
-        Due.typeAll(x, "s1:1,5x5;d1");
         for (int act = 0; act < 11; act++) {
+            GlassRacks x = new GlassRacks();
+            x.buy(0, 0, 50, 50);
+            x.buy(0, 0, 60, 60);
+            x.order(0, 20, 20, 3);
+            x.order(0, 30, 30, 4);
+            x.keep();
+            Due.typeAll(x, "s1:1,5x5;d1");
             // Two acts first, so that the state before this one is not that before the others.
             x.restore();
             x.pass(act + 1);

@@ -1,13 +1,20 @@
-/** Long runs of calls by a fixed rule, each answer compared with that of PlainModel. */
+/**
+ * Runs of calls by a fixed rule, each answer compared with that of PlainModel. An object gets no more than 512
+ * calls, as the document promises no more, so each run asks for some of what is told now and then.
+ */
 public final class ModelTest {
-    private static final int RUNS = 240;
-    private static final int CALLS = 500;
+    private static final int RUNS = 10000;
+    private static final int CALLS = 512;
+    /** More than one act takes (a text is typed and performed), or one look. */
+    private static final int CALLS_OF_ACT = 70;
+    private static final int CALLS_OF_LOOK = 28;
     private static final String SIGNS = "sopd0123456789:,x@; S/?é";
 
     private final Numbers numbers;
     private final GlassRacks x = new GlassRacks();
     private final PlainModel model = new PlainModel();
     private final int run;
+    private int calls = 0;
 
     /** Numbers by a fixed rule. */
     private static final class Numbers {
@@ -36,20 +43,24 @@ public final class ModelTest {
     }
 
     private void go() {
-        for (int call = 0; call < CALLS; call++) {
-            if (run % 8 == 0 && numbers.below(4) != 0) {
-                useUpNumbers(call);
-            } else {
-                act(call);
+        if (run % 8 == 0) {
+            useUpNumbers(185 + numbers.below(16));
+        }
+        int rarely = 2 << run % 4;
+        while (calls + CALLS_OF_ACT + CALLS_OF_LOOK <= CALLS) {
+            act();
+            if (numbers.below(rarely) == 0) {
+                look();
             }
-            if (call % 8 == 0) {
-                compareAll(call);
-            }
+        }
+        while (calls + CALLS_OF_LOOK <= CALLS) {
+            look();
         }
     }
 
-    private void due(int call, String name, int got, int want) {
-        Due.due("run " + run + ", call " + call + ": " + name, got, want);
+    private void due(String name, int got, int want) {
+        calls++;
+        Due.due("run " + run + ", call " + calls + ": " + name, got, want);
     }
 
     /** Mostly a number in range, now and then one about its edges or far out. */
@@ -79,7 +90,7 @@ public final class ModelTest {
         return numbers.below(3) == 0 ? around(1, 25) : around(1, 99);
     }
 
-    private void act(int call) {
+    private void act() {
         int a = someSheet();
         int o = someOrder();
         int w = someSide();
@@ -89,46 +100,54 @@ public final class ModelTest {
         int day = numbers.below(6) == 0 ? around(0, 999) : model.count(0) + numbers.below(5) - 1;
         int choice = around(0, 2);
         switch (numbers.below(24)) {
-            case 0: case 1: setSomething(call); break;
+            case 0: case 1: setSomething(); break;
             case 2: case 3: case 4: case 5: case 6: case 7:
-                due(call, "buy " + rack + " " + sort + " " + w + " " + h, x.buy(rack, sort, w, h), model.buy(rack, sort, w, h));
+                due("buy " + rack + " " + sort + " " + w + " " + h, x.buy(rack, sort, w, h), model.buy(rack, sort, w, h));
                 break;
-            case 8: case 9: due(call, "move " + a + " " + rack, x.move(a, rack), model.move(a, rack)); break;
-            case 10: due(call, "scrap " + a, x.scrap(a), model.scrap(a)); break;
+            case 8: case 9: due("move " + a + " " + rack, x.move(a, rack), model.move(a, rack)); break;
+            case 10: due("scrap " + a, x.scrap(a), model.scrap(a)); break;
             case 11: case 12: case 13: case 14:
-                due(call, "order " + sort + " " + w + " " + h + " " + day, x.order(sort, w, h, day), model.order(sort, w, h, day));
+                due("order " + sort + " " + w + " " + h + " " + day, x.order(sort, w, h, day), model.order(sort, w, h, day));
                 break;
-            case 15: due(call, "cancel " + o, x.cancel(o), model.cancel(o)); break;
-            case 16: case 17: due(call, "cut " + o + " " + a, x.cut(o, a), model.cut(o, a)); break;
-            case 18: due(call, "plan " + choice, x.plan(choice), model.plan(choice)); break;
+            case 15: due("cancel " + o, x.cancel(o), model.cancel(o)); break;
+            case 16: case 17: due("cut " + o + " " + a, x.cut(o, a), model.cut(o, a)); break;
+            case 18: due("plan " + choice, x.plan(choice), model.plan(choice)); break;
             case 19: int days = numbers.below(3) == 0 ? around(1, 99) : 1 + numbers.below(3);
-                due(call, "pass " + days, x.pass(days), model.pass(days));
+                due("pass " + days, x.pass(days), model.pass(days));
                 break;
-            case 20: case 21: performSomething(call); break;
-            case 22: due(call, "undo", x.undo(), model.undo()); break;
+            case 20: case 21: performSomething(); break;
+            case 22: due("undo", x.undo(), model.undo()); break;
             default:
                 if (numbers.below(2) == 0) {
-                    due(call, "keep", x.keep(), model.keep());
+                    due("keep", x.keep(), model.keep());
                 } else {
-                    due(call, "restore", x.restore(), model.restore());
+                    due("restore", x.restore(), model.restore());
                 }
                 break;
         }
     }
 
-    /** Buys and scraps small sheets, so that a run comes to 200 sheets. */
-    private void useUpNumbers(int call) {
-        int sheet = model.at(numbers.below(4), 0);
-        if (sheet >= 0 && numbers.below(2) == 0) {
-            due(call, "scrap " + sheet, x.scrap(sheet), model.scrap(sheet));
-            return;
+    /** Buys six sheets at a time, and breaks them with one call, so that a run comes near to 200 sheets. */
+    private void useUpNumbers(int sheets) {
+        typeAll("s0:0,9x9;s0:0,9x9;s0:0,9x9;s0:0,9x9;s0:0,9x9;s0:0,9x9");
+        due("set 3 1", x.set(3, 1), model.set(3, 1));
+        while (model.count(12) + 6 <= sheets) {
+            due("perform", x.perform(), model.perform());
+            int rear = model.at(0, 5);
+            due("scrap " + rear, x.scrap(rear), model.scrap(rear));
         }
-        int rack = numbers.below(4);
-        int side = 30 + numbers.below(70);
-        due(call, "buy " + rack, x.buy(rack, 0, side, side), model.buy(rack, 0, side, side));
+        due("set 3 0", x.set(3, 0), model.set(3, 0));
+        due("clearText", x.clearText(), model.clearText());
     }
 
-    private void setSomething(int call) {
+    private void typeAll(CharSequence text) {
+        for (int i = 0; i < text.length(); i++) {
+            char sign = text.charAt(i);
+            due("type " + sign, x.type(sign), model.type(sign));
+        }
+    }
+
+    private void setSomething() {
         int what = around(0, 4);
         int value;
         switch (what) {
@@ -137,12 +156,12 @@ public final class ModelTest {
             case 3: value = numbers.below(2) == 0 ? around(0, 50) : numbers.below(6); break;
             default: value = around(0, 1); break;
         }
-        due(call, "set " + what + " " + value, x.set(what, value), model.set(what, value));
+        due("set " + what + " " + value, x.set(what, value), model.set(what, value));
     }
 
-    private void performSomething(int call) {
+    private void performSomething() {
         if (numbers.below(6) != 0) {
-            due(call, "clearText", x.clearText(), model.clearText());
+            due("clearText", x.clearText(), model.clearText());
         }
         StringBuilder text = new StringBuilder();
         for (int more = numbers.below(7); more >= 0; more--) {
@@ -161,11 +180,9 @@ public final class ModelTest {
                 default: text.setLength(place); break;
             }
         }
-        for (int i = 0; i < text.length(); i++) {
-            char sign = text.charAt(i);
-            due(call, "type " + sign, x.type(sign), model.type(sign));
-        }
-        due(call, "perform " + text, x.perform(), model.perform());
+        text.setLength(Math.min(text.length(), 62));
+        typeAll(text);
+        due("perform " + text, x.perform(), model.perform());
     }
 
     private String someCommand() {
@@ -180,42 +197,64 @@ public final class ModelTest {
         }
     }
 
-    private void compareAll(int call) {
-        for (int what = -1; what <= 26; what++) {
-            due(call, "count " + what, x.count(what), model.count(what));
-        }
-        for (int rack = -1; rack <= 4; rack++) {
-            for (int place = -1; place <= 8; place++) {
-                int there = x.at(rack, place);
-                due(call, "at " + rack + " " + place, there, model.at(rack, place));
-                compareSheet(call, there);
-            }
-        }
-        for (int order = -1; order <= 12; order++) {
-            for (int what = -1; what <= 8; what++) {
-                due(call, "ordered " + order + " " + what, x.ordered(order, what), model.ordered(order, what));
-            }
-            due(call, "next " + order, x.next(order), model.next(order));
-            for (int choice = -1; choice <= 3; choice++) {
-                due(call, "choice " + order + " " + choice, x.choice(order, choice), model.choice(order, choice));
-            }
-        }
-        int order = numbers.below(13) - 1;
+    /** Asks for one kind of what is told. */
+    private void look() {
+        int order = someOrder();
         int sheet = someSheet();
-        for (int what = -1; what <= 7; what++) {
-            due(call, "would " + order + " " + sheet + " " + what, x.would(order, sheet, what), model.would(order, sheet, what));
+        int choice = around(0, 2);
+        switch (numbers.below(8)) {
+            case 0: lookAtCounts(); break;
+            case 1: lookAtRack(around(0, 3)); break;
+            case 2: lookAtSheet(sheet); lookAtSheet(someSheet()); break;
+            case 3: lookAtOrder(order); break;
+            case 4:
+                for (int rank = -1; rank <= 12; rank++) {
+                    due("next " + rank, x.next(rank), model.next(rank));
+                }
+                break;
+            case 5:
+                for (int what = -1; what <= 7; what++) {
+                    due("would " + order + " " + sheet + " " + what, x.would(order, sheet, what), model.would(order, sheet, what));
+                }
+                break;
+            case 6:
+                for (int other = -1; other <= 12; other++) {
+                    due("choice " + other + " " + choice, x.choice(other, choice), model.choice(other, choice));
+                }
+                break;
+            default:
+                for (int what = -1; what <= 4; what++) {
+                    due("wouldPlan " + choice + " " + what, x.wouldPlan(choice, what), model.wouldPlan(choice, what));
+                }
+                break;
         }
-        for (int choice = -1; choice <= 3; choice++) {
-            for (int what = -1; what <= 4; what++) {
-                due(call, "wouldPlan " + choice + " " + what, x.wouldPlan(choice, what), model.wouldPlan(choice, what));
-            }
-        }
-        due(call, "area of all", x.count(2) + x.count(4) + x.count(5) + x.count(6) + x.count(7), x.count(3));
     }
 
-    private void compareSheet(int call, int sheet) {
+    private void lookAtCounts() {
+        int area = 0;
+        for (int what = 0; what <= 24; what++) {
+            int got = x.count(what);
+            area += what == 2 || what >= 4 && what <= 7 ? got : what == 3 ? -got : 0;
+            due("count " + what, got, model.count(what));
+        }
+        Due.due("run " + run + ": the area bought is where it is told", area, 0);
+    }
+
+    private void lookAtRack(int rack) {
+        for (int place = -1; place <= 8; place++) {
+            due("at " + rack + " " + place, x.at(rack, place), model.at(rack, place));
+        }
+    }
+
+    private void lookAtSheet(int sheet) {
         for (int what = -1; what <= 6; what++) {
-            due(call, "sheet " + sheet + " " + what, x.sheet(sheet, what), model.sheet(sheet, what));
+            due("sheet " + sheet + " " + what, x.sheet(sheet, what), model.sheet(sheet, what));
+        }
+    }
+
+    private void lookAtOrder(int order) {
+        for (int what = -1; what <= 8; what++) {
+            due("ordered " + order + " " + what, x.ordered(order, what), model.ordered(order, what));
         }
     }
 }
