@@ -24,6 +24,7 @@ public final class EdgesOfCutsTest {
         brokenSheetsMakeRoom();
         wouldIsWithRoomAndWhole();
         theAreaOfTheSheet();
+        severalCutsAddUp();
         Due.finish();
     }
 
@@ -350,5 +351,33 @@ public final class EdgesOfCutsTest {
                 }
             }
         }
+    }
+
+    private static void severalCutsAddUp() {
+        Due.about("panes, scrap, what is broken and what is lost by cuts so far");
+        GlassRacks x = new GlassRacks();
+        // 8 times 20 beside and 29 times 9 above are scrap; 20 + 29 are lost.
+        int[] sums = {400, 8 * 20 + 29 * 9, 20 + 29};
+        for (int cuts = 1; cuts <= 4; cuts++) {
+            x.buy(0, 0, 29, 30);
+            x.order(0, 20, 20, 0);
+            x.cut(cuts - 1, cuts - 1);
+            due("panes of " + cuts, x.count(4), sums[0] * cuts);
+            due("scrap of " + cuts, x.count(5), sums[1] * cuts);
+            due("lost of " + cuts, x.count(7), sums[2] * cuts);
+            due("bought", x.count(3), 29 * 30 * cuts);
+            due("liftings", x.count(8), cuts);
+        }
+        x.buy(0, 0, 29, 30);
+        x.scrap(4);
+        due("scrap", x.count(5), sums[1] * 4 + 870);
+        x.set(3, 1);
+        for (int broken = 1; broken <= 3; broken++) {
+            x.buy(0, 0, 29, 30);
+            x.scrap(4 + broken);
+            due("broken", x.count(6), 870 * broken);
+        }
+        due("scrap", x.count(5), sums[1] * 4 + 870);
+        due("panes", x.count(4), 1600);
     }
 }

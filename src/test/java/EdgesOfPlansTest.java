@@ -470,9 +470,14 @@ public final class EdgesOfPlansTest {
             for (int what = 0; what < 4; what++) {
                 due("no sheet: " + what, x.wouldPlan(choice, what), 0);
             }
+            x.set(3, 0);
+            x.scrap(1);
+            x.set(3, 1);
             x.move(0, 1);
+            due("scrapped before", x.count(5), 2500);
+            due("broken before", x.count(6), 2500);
             for (int what = 0; what < 4; what++) {
-                due("what was lifted and broken before counts not: " + what, x.wouldPlan(choice, what), 0);
+                due("what was scrapped, lifted and broken before counts not: " + what, x.wouldPlan(choice, what), 0);
             }
         }
     }
