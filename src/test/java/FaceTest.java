@@ -22,6 +22,9 @@ public final class FaceTest {
         Due.due("public and final", GlassRacks.class.getModifiers(), Modifier.PUBLIC | Modifier.FINAL);
         methods();
         constants();
+        if (Document.IS_THERE) {
+            asInTheDocument();
+        }
         Constructor<?>[] constructors = GlassRacks.class.getDeclaredConstructors();
         Due.due("one constructor", constructors.length, 1);
         Due.due("without arguments", constructors[0].getParameterCount(), 0);
@@ -57,6 +60,31 @@ public final class FaceTest {
             String bare = name.substring(0, name.indexOf(':'));
             Due.due("no other method is named " + bare, hidden.contains(bare) ? 1 : 0, 0);
         }
+    }
+
+    /** Each public member stands in the document's block, and no other line begins with "public" there. */
+    private static void asInTheDocument() throws Exception {
+        String face = Document.face();
+        int members = 1;
+        for (Method method : GlassRacks.class.getDeclaredMethods()) {
+            if (Modifier.isPublic(method.getModifiers())) {
+                members++;
+                StringBuilder types = new StringBuilder();
+                for (Class<?> type : method.getParameterTypes()) {
+                    types.append(types.length() == 0 ? "" : ", ").append(type.getName()).append(" \\w+");
+                }
+                String line = "(?s).*    public int " + method.getName() + "\\(" + types + "\\);\n.*";
+                Due.due("the document has " + method, face.matches(line) ? 1 : 0, 1);
+            }
+        }
+        for (Field field : GlassRacks.class.getDeclaredFields()) {
+            if (Modifier.isPublic(field.getModifiers())) {
+                members++;
+                String line = "    public static final int " + field.getName() + " = " + field.getInt(null) + ";\n";
+                Due.due("the document has " + field, face.contains(line) ? 1 : 0, 1);
+            }
+        }
+        Due.due("members in the document", face.split("\n    public ").length - 1, members);
     }
 
     private static void constants() {
