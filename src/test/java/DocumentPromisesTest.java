@@ -87,9 +87,13 @@ public final class DocumentPromisesTest {
             due("the least one is set", x.count(20 + what), least[what]);
             due("the greatest one", x.set(what, greatest[what]), least[what]);
             due("it is set", x.count(20 + what), greatest[what]);
+            due("the least one again", x.set(what, least[what]), greatest[what]);
         }
         due("no such number", x.set(5, 1), BAD_VALUE);
         due("no such number", x.set(-1, 1), BAD_VALUE);
+        for (int value = -5; value < 0; value++) {
+            due("no such number, as its value is", x.set(5, value), BAD_VALUE);
+        }
 
         document.says("`value`: the new number");
         x = new GlassRacks();
@@ -691,6 +695,16 @@ public final class DocumentPromisesTest {
             due("wouldPlan(0, " + what + "), fragile", x.wouldPlan(0, what), broken[what]);
         }
         due("nothing is cut or lifted", x.count(4) + x.count(8), 0);
+        x.buy(3, 2, 9, 9);
+        x.buy(3, 2, 7, 7);
+        due("scrapped before", x.scrap(4), 49);
+        due("broken before", x.scrap(3), 81);
+        due("scrap", x.count(5), 49);
+        due("broken", x.count(6), 81);
+        due("liftings", x.count(8), 2);
+        for (int what = 0; what < 4; what++) {
+            due("wouldPlan(0, " + what + ") is told without them", x.wouldPlan(0, what), broken[what]);
+        }
 
         document.says("Returns the number; BAD_VALUE.");
         due("no such question", x.wouldPlan(0, 4), BAD_VALUE);

@@ -172,6 +172,9 @@ public final class DocumentTermsTest {
         for (int number = 0; number < 3; number++) {
             due("order " + number + " is late", x.ordered(number, 7), number == 0 ? 1 : 0);
         }
+        x.order(0, 9, 9, 2);
+        due("it is cut on its day", x.cut(3, 2), 0);
+        due("and is not late", x.ordered(3, 7), 0);
         due("it is cut on a later day", x.cut(0, 0), 0);
         due("and is late", x.ordered(0, 7), 1);
     }
@@ -224,10 +227,22 @@ public final class DocumentTermsTest {
 
         document.says("those before it are put back in their order.");
         x = Scenes.rackOf(4);
+        x.buy(1, 0, 9, 9);
+        x.buy(1, 0, 9, 9);
         x.scrap(1);
         int[] left = {3, 2, 0, NONE};
         for (int place = 0; place < 4; place++) {
             due("at place " + place, x.at(0, place), left[place]);
+        }
+        due("the other rack is as it was", x.at(1, 1), 4);
+        for (int rack = 0; rack < 4; rack++) {
+            x = new GlassRacks();
+            for (int number = 0; number < 8; number++) {
+                x.buy(rack, 0, 9, 9);
+            }
+            due("the rearmost one of a full rack", x.scrap(0), 81);
+            due("the front one is back", x.at(rack, 0), 7);
+            due("all seven are", x.count(1), 7);
         }
 
         document.says("The liftings so far are counted (0 at first);");
@@ -331,6 +346,14 @@ public final class DocumentTermsTest {
         due("all besides the pane is lost", x.would(0, 0, 5), 30);
         due("nothing is kept", x.cut(0, 0), 0);
         due("nothing is scrap", x.count(5), 0);
+        x = Scenes.oneCut(32, 32, 30, 30);
+        due("1 wide", x.would(0, 0, 1), 30);
+        due("1 high", x.would(0, 0, 2), 32);
+        due("nothing is kept", x.cut(0, 0), 0);
+        due("both pieces are scrap", x.count(5), 62);
+        x = Scenes.oneCut(32, 32, 30, 30);
+        x.set(1, 1);
+        due("both pieces are kept", x.cut(0, 0), 2);
     }
 
     private static void keptPieces(Document document) {
@@ -339,6 +362,12 @@ public final class DocumentTermsTest {
         due("at first", x.count(21), 10);
         due("a least side of 0", x.set(1, 0), BAD_VALUE);
         due("a least side of 99", x.set(1, 99), 10);
+        x = Scenes.oneCut(60, 60, 49, 10);
+        due("a piece beside, 10 wide and high, and a piece above, 60 and 49", x.would(0, 0, 3), 100 + 60 * 49);
+        x.order(0, 10, 49, 0);
+        due("a piece above, 60 wide and 10 high, and a piece beside, 49 and 49", x.would(1, 0, 3), 600 + 49 * 49);
+        x.set(2, 1);
+        due("by the other manner, 10 wide and high, and 49 and 60", x.would(1, 0, 3), 100 + 49 * 60);
         x = Scenes.oneCut(41, 40, 30, 30);
         due("pieces 10 wide and 9 high", x.cut(0, 0), 1);
         due("the one kept is 10 wide", x.sheet(1, 1), 10);
@@ -402,6 +431,15 @@ public final class DocumentTermsTest {
         int[] ranked = {2, 1, 3, 0, 4, NONE};
         for (int rank = 0; rank < ranked.length; rank++) {
             due("rank " + rank, x.next(rank), ranked[rank]);
+        }
+        x = new GlassRacks();
+        for (int number = 0; number < 12; number++) {
+            x.buy(number / 8, 0, 20 + number, 9);
+            x.order(0, 20 + number, 9, 0);
+        }
+        due("twelve orders", x.plan(0), 12);
+        for (int number = 0; number < 12; number++) {
+            due("order " + number + " got the sheet that is as great", x.ordered(number, 5), number);
         }
     }
 
@@ -520,7 +558,8 @@ public final class DocumentTermsTest {
         }
 
         document.says("a digit by which a number would be greater than told is not allowed.");
-        String[] great = {"s10", "s0:10", "s0:0,100", "s0:0,1x100", "o10", "o0,999", "o0,1x990", "o0,1x1@1000", "p10", "d100"};
+        String[] great = {"s10", "s0:10", "s0:0,100", "s0:0,109", "s0:0,1x100", "s0:0,1x109", "o10", "o0,999", "o0,1x990",
+            "o0,1x1@1000", "o0,1x1@1009", "p10", "d100", "d109"};
         for (String text : great) {
             due(text, Due.performed(new GlassRacks(), text), -100 - (text.length() - 1));
         }
@@ -601,6 +640,10 @@ public final class DocumentTermsTest {
         due("four acts", x.set(0, 5), 1);
         due("four acts", x.buy(0, 0, 9, 9), 0);
         due("four acts", x.order(0, 9, 9, 9), 0);
+        x.set(1, 20);
+        x.set(2, 1);
+        x.set(3, 9);
+        x.set(4, 0);
         due("the text is typed on", x.type(';'), 3);
         due("restored", x.restore(), 0);
         Told.same("the new state", Told.state(x), Told.state(new GlassRacks()));
